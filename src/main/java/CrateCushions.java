@@ -221,14 +221,19 @@ public final class CrateCushions {
             return sizes[object * AXES + SIZE_OF_WAY[way * AXES + axis]];
         }
 
-        int shortestLength(int object) {
-            int shortest = LARGEST_SIZE;
+        /** The lowest of the shortest ways with which an object keeps within a width and a height. */
+        int shortestWay(int object, int width, int height) {
+            int best = NONE;
+            int shortest = LARGEST_SIZE + 1;
             for (int way = 0; way < WAYS; way++) {
-                if (mayStand(object, way)) {
-                    shortest = Math.min(shortest, sizeOf(object, way, 0));
+                int length = sizeOf(object, way, 0);
+                boolean within = sizeOf(object, way, 1) <= width && sizeOf(object, way, 2) <= height;
+                if (within && length < shortest && mayStand(object, way)) {
+                    best = way;
+                    shortest = length;
                 }
             }
-            return shortest;
+            return best;
         }
 
         int leastCrates(int limit) {
@@ -376,8 +381,6 @@ public final class CrateCushions {
         private final int[] wayOf = new int[MOST_OBJECTS];
         private final int[] startOf = new int[MOST_OBJECTS];
         private final int[] triedWay = new int[MOST_OBJECTS];
-        /** The least length that the objects from this number on must still add. */
-        private final int[] shortestRest = new int[MOST_OBJECTS + 1];
         private boolean packed;
         private int members;
         private int gap;
@@ -435,48 +438,52 @@ public final class CrateCushions {
         }
 
         private void findLeast(Goods goods) {
-            shortestRest[goods.count] = 0;
-            for (int object = goods.count - 1; object >= 0; object--) {
-                int own = isIn(members, object) ? goods.shortestLength(object) + gap : 0;
-                shortestRest[object] = shortestRest[object + 1] + own;
-            }
-            for (int object = 0; object < MOST_OBJECTS; object++) {
-                triedWay[object] = NONE;
-            }
             leastProduct = Long.MAX_VALUE;
-            tryWays(this, goods, 0, gap, 2 * gap, 2 * gap);
-        }
-
-        /**
-         * Ways are tried from the lowest, first object first, and only a lesser product replaces
-         * what was found: so of equal ones the lower ways stay, and what can't get below may be
-         * left out.
-         */
-        private static void tryWays(Packing p, Goods goods, int object, int length, int width, int height) {
-            if ((long) (length + p.shortestRest[object]) * width * height >= p.leastProduct) {
-                return;
-            }
-            if (object >= goods.count) {
-                p.keep(length, width, height);
-                return;
-            }
-            if (!isIn(p.members, object)) {
-                tryWays(p, goods, object + 1, length, width, height);
-                return;
-            }
-            for (int way = 0; way < WAYS; way++) {
-                if (goods.mayStand(object, way)) {
-                    p.triedWay[object] = way;
-                    tryWays(p, goods, object + 1,
-                            length + goods.sizeOf(object, way, 0) + p.gap,
-                            Math.max(width, goods.sizeOf(object, way, 1) + 2 * p.gap),
-                            Math.max(height, goods.sizeOf(object, way, 2) + 2 * p.gap));
+            int ends = goods.count * AXES;
+            for (int broad = 0; broad < ends; broad++) {
+                for (int high = 0; high < ends; high++) {
+                    if (isIn(members, broad / AXES) && isIn(members, high / AXES)) {
+                        tryWithin(goods, goods.sizes[broad], goods.sizes[high]);
+                    }
                 }
             }
         }
 
+        /**
+         * Once width and height are given, each object takes the least length on its own, and the
+         * lowest way that has it. A crate is as wide and as high as some sizes of its objects, so
+         * trying all pairs of sizes finds the least product and, of equal ones, the lowest ways.
+         */
+        private void tryWithin(Goods goods, int width, int height) {
+            int length = gap;
+            for (int object = 0; object < MOST_OBJECTS; object++) {
+                triedWay[object] = NONE;
+                if (isIn(members, object)) {
+                    int way = goods.shortestWay(object, width, height);
+                    if (way == NONE) {
+                        return;
+                    }
+                    triedWay[object] = way;
+                    length += goods.sizeOf(object, way, 0) + gap;
+                }
+            }
+            long product = (long) length * (width + 2 * gap) * (height + 2 * gap);
+            if (product < leastProduct || product == leastProduct && triedIsLower()) {
+                leastProduct = product;
+                keep(length, width + 2 * gap, height + 2 * gap);
+            }
+        }
+
+        private boolean triedIsLower() {
+            for (int object = 0; object < MOST_OBJECTS; object++) {
+                if (triedWay[object] != wayOf[object]) {
+                    return triedWay[object] < wayOf[object];
+                }
+            }
+            return false;
+        }
+
         private void keep(int length, int width, int height) {
-            leastProduct = (long) length * width * height;
             sizes[0] = length;
             sizes[1] = width;
             sizes[2] = height;

@@ -6,6 +6,7 @@ public final class FoamsTest {
         promise5Point();
         promise5Refusals();
         promise6Value();
+        promise6EachRowHasItsOwn();
         promise6Edges();
         promise7Thickness();
         promise7IsByHalving();
@@ -102,6 +103,27 @@ public final class FoamsTest {
         Check.same("100 1/3, up, on a rising line", x.value(2, 0, 15), 101);
         Check.same("the last", x.value(2, 0, 16), 101);
         Check.same("behind the last", x.value(2, 0, 17), -1);
+    }
+
+    private static void promise6EachRowHasItsOwn() {
+        CrateCushions x = new CrateCushions();
+        for (int kind = 0; kind < 4; kind++) {
+            for (int row = 0; row < 8; row++) {
+                x.foam(kind, row + 1);
+                for (int point = 0; point < 6; point++) {
+                    x.point(kind, row, point, 100 * kind + 10 * row + point + 1);
+                }
+            }
+        }
+        for (int kind = 0; kind < 4; kind++) {
+            for (int row = 0; row < 8; row++) {
+                for (int point = 0; point < 6; point++) {
+                    Check.same("value(" + kind + ", " + row + ", " + point + ")",
+                            x.value(kind, row, point), 100 * kind + 10 * row + point + 1);
+                }
+                Check.same("behind the last", x.value(kind, row, 6), -1);
+            }
+        }
     }
 
     private static void promise6Edges() {

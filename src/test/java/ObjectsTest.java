@@ -100,6 +100,24 @@ public final class ObjectsTest {
         }
         Check.same("6 3 3 | 5 4 3", y.split(12), 2);
         Check.same("one more is needed", y.split(11), 3);
+        // 13 2 2 | 10 6 1: the crates must be filled to the last gram.
+        CrateCushions v = new CrateCushions();
+        int[] tight = {2, 10, 6, 13, 2, 1};
+        for (int g : tight) {
+            v.object(1, 1, 1, g);
+        }
+        Check.same("both full", v.split(17), 2);
+        Check.same("a gram less", v.split(16), 3);
+        // Only one pairing of these fills three crates of 10; each order of them must find it.
+        int[][] orders = {{9, 1, 8, 2, 7, 3}, {1, 2, 3, 7, 8, 9}, {3, 8, 1, 7, 2, 9}, {7, 2, 9, 3, 1, 8}};
+        for (int[] order : orders) {
+            CrateCushions z = new CrateCushions();
+            for (int g : order) {
+                z.object(1, 1, 1, g);
+            }
+            Check.same("9 1 | 8 2 | 7 3", z.split(10), 3);
+            Check.same("9 | 8 1 | 7 2 | 3", z.split(9), 4);
+        }
     }
 
     private static void promise14Edges() {
@@ -118,5 +136,10 @@ public final class ObjectsTest {
         Check.same("together", x.split(600000), 1);
         Check.same("asked again", x.split(100000), 6);
         Check.same("one too heavy", x.split(99999), -1);
+        CrateCushions y = new CrateCushions();
+        y.object(1, 1, 1, 9);
+        y.object(1, 1, 1, 2);
+        Check.same("the first is too heavy", y.split(8), -1);
+        Check.same("it has room just so", y.split(9), 2);
     }
 }

@@ -42,8 +42,16 @@ public final class PackTest {
         Check.same("way of 0", x.at(0, -1), 1);
         Check.same("way of 1", x.at(1, -1), 0);
         // Gaps count in the product, so wide ones may ask for other ways than narrow ones.
-        Check.same("pack(3, 20)", x.pack(3, 20), 2);
-        Check.same("product with wide gaps", (long) x.size(0) * x.size(1) * x.size(2), leastOf(10, 20, 30, 20));
+        for (int gap = 0; gap <= 20; gap++) {
+            for (int c = 1; c <= 60; c++) {
+                CrateCushions y = new CrateCushions();
+                y.object(10, 20, c, 1);
+                y.object(5, 5, 40, 1);
+                y.pack(3, gap);
+                Check.same("product with gap " + gap + ", size " + c,
+                        (long) y.size(0) * y.size(1) * y.size(2), leastOf(10, 20, c, gap));
+            }
+        }
     }
 
     /** The least product for a box of three sizes beside the 5, 5, 40 rod, by trying all 36. */
@@ -106,6 +114,14 @@ public final class PackTest {
         Check.same("its object, too", x.at(0, 0), 2);
         Check.same("the other is not in it", x.at(1, -1), -1);
         Check.refused("the gap comes first", Check.ARGUMENT, () -> x.pack(2, 21));
+        CrateCushions y = new CrateCushions();
+        y.object(3, 4, 5, 1);
+        y.object(6, 7, 8, 1);
+        for (int side = 0; side < 6; side++) {
+            y.weak(0, side, true);
+        }
+        Check.same("the first can't stand", y.pack(3, 0), -1);
+        Check.same("without it", y.pack(2, 0), 1);
     }
 
     private static void promise8Refusals() {
@@ -172,6 +188,14 @@ public final class PackTest {
         Check.same("the next behind it", x.at(2, 0), 1);
         Check.same("that of before is gone", x.at(1, 0), -1);
         Check.same("and its way", x.at(1, -1), -1);
+        CrateCushions y = new CrateCushions();
+        y.object(10, 20, 30, 1);
+        y.object(5, 5, 40, 1);
+        y.object(6, 6, 6, 1);
+        y.pack(7, 2);
+        Check.same("the first", y.at(0, 0), 2);
+        Check.same("behind 20 and a gap", y.at(1, 0), 24);
+        Check.same("behind 5 and a gap", y.at(2, 0), 31);
     }
 
     private static void promise10KeepsWhatWasPacked() {

@@ -4,6 +4,8 @@ public final class StockTest {
         promise11Crate();
         promise11Refusals();
         promise12Match();
+        promise12LeastProduct();
+        promise12TenCrates();
         promise12RoomOnTheEdge();
         promise12GreatProducts();
         promise13Free();
@@ -38,6 +40,8 @@ public final class StockTest {
             Check.refused("height " + size, Check.ARGUMENT, () -> x.crate(1, 1, size));
         }
         Check.same("count(1)", x.count(1), 0);
+        Check.same("the least", x.crate(1, 1, 1), 0);
+        Check.same("the greatest", x.crate(2000, 2000, 2000), 1);
     }
 
     private static void promise12Match() {
@@ -56,6 +60,36 @@ public final class StockTest {
         y.crate(100, 100, 100);
         Check.refused("nothing packed", Check.STATE, () -> y.match());
         Check.same("count(2)", y.count(2), 0);
+    }
+
+    private static void promise12LeastProduct() {
+        CrateCushions x = packed();
+        x.crate(40, 40, 40);
+        x.crate(10, 20, 319);
+        x.crate(1000, 31, 31);
+        x.crate(10, 1000, 30);
+        x.crate(21, 1000, 30);
+        int[] due = {1, 0, 3, 4, 2};
+        for (int crate : due) {
+            Check.same("by products, not by sums", x.match(), crate);
+        }
+        CrateCushions y = packed();
+        y.crate(20, 20, 2000);
+        y.crate(40, 40, 40);
+        Check.same("height counts as much", y.match(), 1);
+        Check.same("then the high one", y.match(), 0);
+    }
+
+    private static void promise12TenCrates() {
+        CrateCushions x = packed();
+        for (int n = 0; n < 10; n++) {
+            x.crate(50 - n, 50, 50);
+        }
+        for (int n = 9; n >= 0; n--) {
+            Check.same("the next least", x.match(), n);
+            Check.same("count(2)", x.count(2), 10 - n);
+        }
+        Check.same("all are taken", x.match(), -1);
     }
 
     private static void promise12RoomOnTheEdge() {

@@ -41,6 +41,9 @@ public final class TravelTest {
         x.lag(100);
         x.climate(59);
         Check.same("a small fall still falls", x.inside(8), 59990);
+        CrateCushions y = new CrateCushions();
+        y.lag(3);
+        Check.same("a third of 20000 less, rounded down", y.climate(0), 13333);
     }
 
     private static void promise16Limits() {
