@@ -70,12 +70,16 @@ public final class ObjectsTest {
         }
     }
 
-    private static void promise14Split() {
+    private static CrateCushions ofGrams(int... grams) {
         CrateCushions x = new CrateCushions();
-        int[] grams = {500, 900, 300};
         for (int g : grams) {
             x.object(1, 1, 1, g);
         }
+        return x;
+    }
+
+    private static void promise14Split() {
+        CrateCushions x = ofGrams(500, 900, 300);
         Check.same("split(1700)", x.split(1700), 1);
         Check.same("split(1699)", x.split(1699), 2);
         Check.same("split(900)", x.split(900), 2);
@@ -86,35 +90,18 @@ public final class ObjectsTest {
 
     private static void promise14NeedsMoreThanGreed() {
         // The heaviest first, each into the first crate that has room, takes three crates here.
-        CrateCushions x = new CrateCushions();
-        int[] grams = {4, 3, 3, 4, 3, 3};
-        for (int g : grams) {
-            x.object(1, 1, 1, g);
-        }
-        Check.same("4 3 3 | 4 3 3", x.split(10), 2);
+        Check.same("4 3 3 | 4 3 3", ofGrams(4, 3, 3, 4, 3, 3).split(10), 2);
         // And so does filling crates by numbers here.
-        CrateCushions y = new CrateCushions();
-        int[] other = {6, 5, 4, 3, 3, 3};
-        for (int g : other) {
-            y.object(1, 1, 1, g);
-        }
-        Check.same("6 3 3 | 5 4 3", y.split(12), 2);
-        Check.same("one more is needed", y.split(11), 3);
-        // 13 2 2 | 10 6 1: the crates must be filled to the last gram.
-        CrateCushions v = new CrateCushions();
-        int[] tight = {2, 10, 6, 13, 2, 1};
-        for (int g : tight) {
-            v.object(1, 1, 1, g);
-        }
-        Check.same("both full", v.split(17), 2);
-        Check.same("a gram less", v.split(16), 3);
+        CrateCushions x = ofGrams(6, 5, 4, 3, 3, 3);
+        Check.same("6 3 3 | 5 4 3", x.split(12), 2);
+        Check.same("one more is needed", x.split(11), 3);
+        CrateCushions y = ofGrams(2, 10, 6, 13, 2, 1);
+        Check.same("13 2 2 | 10 6 1, both full", y.split(17), 2);
+        Check.same("a gram less", y.split(16), 3);
         // Only one pairing of these fills three crates of 10; each order of them must find it.
         int[][] orders = {{9, 1, 8, 2, 7, 3}, {1, 2, 3, 7, 8, 9}, {3, 8, 1, 7, 2, 9}, {7, 2, 9, 3, 1, 8}};
         for (int[] order : orders) {
-            CrateCushions z = new CrateCushions();
-            for (int g : order) {
-                z.object(1, 1, 1, g);
-            }
+            CrateCushions z = ofGrams(order);
             Check.same("9 1 | 8 2 | 7 3", z.split(10), 3);
             Check.same("9 | 8 1 | 7 2 | 3", z.split(9), 4);
         }
@@ -136,9 +123,7 @@ public final class ObjectsTest {
         Check.same("together", x.split(600000), 1);
         Check.same("asked again", x.split(100000), 6);
         Check.same("one too heavy", x.split(99999), -1);
-        CrateCushions y = new CrateCushions();
-        y.object(1, 1, 1, 9);
-        y.object(1, 1, 1, 2);
+        CrateCushions y = ofGrams(9, 2);
         Check.same("the first is too heavy", y.split(8), -1);
         Check.same("it has room just so", y.split(9), 2);
     }
