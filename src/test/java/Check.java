@@ -1,3 +1,5 @@
+import java.util.function.IntSupplier;
+
 /** What the tests share: answers compared, refusals awaited, and an exit code at the end. */
 final class Check {
     static final Class<IndexOutOfBoundsException> INDEX = IndexOutOfBoundsException.class;
@@ -37,6 +39,15 @@ final class Check {
             return;
         }
         fail(call + " was not refused, due is " + due.getName());
+    }
+
+    /** What a call answered, or throws. and the name of what it threw. */
+    static String answer(IntSupplier call) {
+        try {
+            return Integer.toString(call.getAsInt());
+        } catch (RuntimeException e) {
+            return "throws." + e.getClass().getSimpleName();
+        }
     }
 
     static void fail(String text) {

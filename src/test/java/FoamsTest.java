@@ -8,8 +8,10 @@ public final class FoamsTest {
         promise6Value();
         promise6EachRowHasItsOwn();
         promise6Edges();
+        promise6RoundedUp();
         promise7Thickness();
         promise7IsByHalving();
+        promise7RowsThatAreAsked();
         Check.end("FoamsTest");
     }
 
@@ -148,6 +150,33 @@ public final class FoamsTest {
         Check.refused("a kind without rows", Check.INDEX, () -> x.value(1, 0, 0));
     }
 
+    private static void promise6RoundedUp() {
+        CrateCushions x = new CrateCushions();
+        x.foam(0, 1);
+        x.point(0, 0, 0, 10);
+        x.point(0, 0, 10, 20);
+        x.point(0, 0, 20, 10);
+        x.point(0, 0, 30, 10);
+        Check.same("whole on a rising line", x.value(0, 0, 5), 15);
+        Check.same("whole on a falling line", x.value(0, 0, 15), 15);
+        Check.same("on a flat line", x.value(0, 0, 25), 10);
+        x.foam(0, 2);
+        x.point(0, 1, 0, 1);
+        x.point(0, 1, 5000, 2);
+        x.point(0, 1, 10000, 1);
+        int[][] due = {{0, 1}, {1, 2}, {4999, 2}, {5000, 2}, {5001, 2}, {9999, 2}, {10000, 1}};
+        for (int[] at : due) {
+            Check.same("up from the least above 1, at " + at[0], x.value(0, 1, at[0]), at[1]);
+        }
+        x.foam(0, 3);
+        x.point(0, 2, 0, 1);
+        x.point(0, 2, 1, 1000);
+        x.point(0, 2, 2, 1);
+        for (int stress = 0; stress <= 2; stress++) {
+            Check.same("points side by side", x.value(0, 2, stress), stress == 1 ? 1000 : 1);
+        }
+    }
+
     private static void promise7Thickness() {
         CrateCushions x = new CrateCushions();
         Check.same("no rows", x.thickness(0, 5, 1000), -1);
@@ -192,5 +221,23 @@ public final class FoamsTest {
         Check.same("row 1 has no value, so row 0 is not asked", y.thickness(1, 5, 10), 3);
         y.point(1, 1, 5, 1);
         Check.same("down to row 0", y.thickness(1, 5, 10), 1);
+    }
+
+    private static void promise7RowsThatAreAsked() {
+        // By bits: the rows that are asked, of so many, as long as none will do.
+        int[] asked = {0, 0b1, 0b10, 0b110, 0b1100, 0b10100, 0b101000, 0b1101000, 0b11010000};
+        for (int rows = 1; rows <= 8; rows++) {
+            for (int row = 0; row < rows; row++) {
+                CrateCushions x = new CrateCushions();
+                for (int n = 0; n < rows; n++) {
+                    x.foam(3, 10 * n + 10);
+                    x.point(3, n, 7, n == row ? 50 : 51);
+                }
+                boolean found = (asked[rows] >> row & 1) == 1;
+                Check.same("only row " + row + " of " + rows, x.thickness(3, 7, 50), found ? 10 * row + 10 : -1);
+                Check.same("a limit just below", x.thickness(3, 7, 49), -1);
+                Check.same("a limit above all", x.thickness(3, 7, 51), 10);
+            }
+        }
     }
 }

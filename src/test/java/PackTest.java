@@ -6,6 +6,9 @@ public final class PackTest {
         promise8EachWay();
         promise8LeastProduct();
         promise8LowerWayOfEqualOnes();
+        promise8FirstObjectThatDiffers();
+        promise8LeastAndGreatestCrate();
+        promise8LastSideThatIsNotWeak();
         promise8NoneChangesNothing();
         promise8Refusals();
         promise9Size();
@@ -95,6 +98,69 @@ public final class PackTest {
             Check.same("cube " + n, z.at(n, -1), n % 3 == 0 ? 1 : 0);
         }
         Check.same("their length", z.size(0), 31);
+    }
+
+    /** Objects, four numbers each: three sizes, and the weak sides by bits. */
+    private static CrateCushions ofSizes(int... numbers) {
+        CrateCushions x = new CrateCushions();
+        for (int n = 0; n < numbers.length; n += 4) {
+            int object = x.object(numbers[n], numbers[n + 1], numbers[n + 2], 1);
+            for (int side = 0; side < 6; side++) {
+                x.weak(object, side, (numbers[n + 3] >> side & 1) == 1);
+            }
+        }
+        return x;
+    }
+
+    private static void crateIs(CrateCushions x, int[] sizes, int[] ways) {
+        for (int axis = 0; axis < 3; axis++) {
+            Check.same("size(" + axis + ")", x.size(axis), sizes[axis]);
+        }
+        for (int object = 0; object < ways.length; object++) {
+            Check.same("at(" + object + ", -1)", x.at(object, -1), ways[object]);
+        }
+    }
+
+    /** Equal products where the later objects, or the ways' sum, would ask for other ways. */
+    private static void promise8FirstObjectThatDiffers() {
+        CrateCushions x = ofSizes(12, 6, 4, 0b111010, 2, 9, 6, 0b101000);
+        x.pack(3, 1);
+        crateIs(x, new int[] {24, 8, 6}, new int[] {0, 4});
+        CrateCushions y = ofSizes(11, 8, 12, 0, 8, 12, 10, 0b101101);
+        y.pack(3, 1);
+        crateIs(y, new int[] {27, 13, 10}, new int[] {3, 4});
+        CrateCushions z = ofSizes(8, 3, 7, 0b100011, 2, 10, 8, 0b11, 3, 1, 9, 0b100000);
+        z.pack(7, 0);
+        crateIs(z, new int[] {16, 10, 3}, new int[] {3, 5, 4});
+    }
+
+    private static void promise8LeastAndGreatestCrate() {
+        CrateCushions x = ofSizes(1, 1, 1, 0);
+        Check.same("the least", x.pack(1, 0), 1);
+        crateIs(x, new int[] {1, 1, 1}, new int[] {0});
+        CrateCushions y = new CrateCushions();
+        for (int n = 0; n < 6; n++) {
+            y.object(200, 200, 200, 100000);
+        }
+        Check.same("the greatest", y.pack(63, 20), 6);
+        crateIs(y, new int[] {6 * 200 + 7 * 20, 240, 240}, new int[] {0, 0, 0, 0, 0, 0});
+        Check.same("the last of them", y.at(5, 0), 5 * 220 + 20);
+    }
+
+    private static void promise8LastSideThatIsNotWeak() {
+        for (int object = 0; object < 6; object++) {
+            CrateCushions x = ofSizes(1, 2, 3, 0, 1, 2, 3, 0, 1, 2, 3, 0, 1, 2, 3, 0, 1, 2, 3, 0, 1, 2, 3, 0);
+            for (int side = 0; side < 5; side++) {
+                x.weak(object, side, true);
+            }
+            Check.same("one side is left", x.pack(63, 0), 6);
+            Check.same("on it", x.at(object, -1), 5);
+            x.weak(object, 5, true);
+            Check.same("none is left", x.pack(63, 0), -1);
+            Check.same("alone", x.pack(1 << object, 0), -1);
+            Check.same("the others", x.pack(63 ^ 1 << object, 0), 5);
+            Check.same("it is not among them", x.at(object, -1), -1);
+        }
     }
 
     private static void promise8NoneChangesNothing() {

@@ -146,17 +146,9 @@ public final class RandomRunsTest {
     }
 
     private static void both(int seed, int n, String name, IntSupplier got, IntSupplier due) {
-        String g = answer(got);
-        String d = answer(due);
+        String g = Check.answer(got);
+        String d = Check.answer(due);
         Check.yes("seed " + seed + ", call " + n + ", " + name + " answered " + g + ", due is " + d + ": as due",
                 g.equals(d));
-    }
-
-    private static String answer(IntSupplier call) {
-        try {
-            return Integer.toString(call.getAsInt());
-        } catch (RuntimeException e) {
-            return "throws." + e.getClass().getSimpleName();
-        }
     }
 }

@@ -8,6 +8,8 @@ public final class StockTest {
         promise12TenCrates();
         promise12RoomOnTheEdge();
         promise12GreatProducts();
+        promise12LatestCrate();
+        promise12GapsNeedRoom();
         promise13Free();
         promise23Count();
         Check.end("StockTest");
@@ -114,6 +116,33 @@ public final class StockTest {
         Check.same("the least", x.match(), 1);
         Check.same("the next", x.match(), 2);
         Check.same("the greatest", x.match(), 0);
+    }
+
+    private static void promise12LatestCrate() {
+        CrateCushions x = packed();
+        x.object(11, 20, 30, 1);
+        x.crate(10, 20, 30);
+        x.crate(11, 20, 30);
+        x.pack(2, 0);
+        Check.same("only the other has room", x.match(), 1);
+        Check.same("none is left", x.match(), -1);
+        x.pack(1, 0);
+        Check.same("the latest has room there", x.match(), 0);
+        Check.same("what was taken stays so", x.match(), -1);
+        x.free(1);
+        Check.same("the greater one has room, too", x.match(), 1);
+    }
+
+    private static void promise12GapsNeedRoom() {
+        CrateCushions x = new CrateCushions();
+        x.object(10, 10, 10, 1);
+        x.pack(1, 20);
+        x.crate(49, 50, 50);
+        x.crate(50, 49, 50);
+        x.crate(50, 50, 49);
+        Check.same("one short", x.match(), -1);
+        x.crate(50, 50, 50);
+        Check.same("just room", x.match(), 3);
     }
 
     private static void promise13Free() {

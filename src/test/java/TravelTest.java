@@ -2,13 +2,20 @@
 public final class TravelTest {
     public static void main(String[] args) {
         promise15Lag();
+        promise15ForLaterHours();
         promise16Climate();
+        promise16SmallDifferences();
         promise16Limits();
         promise17Inside();
         promise18Steady();
+        promise18Ends();
         promise19And20Shocks();
+        promise19Halves();
+        promise19LaterLimits();
         promise19And20Refusals();
+        promise20UpToTheLastCall();
         promise21Route();
+        promise21WrapsAround();
         promise21Refusals();
         promise22Drop();
         Check.end("TravelTest");
@@ -44,6 +51,36 @@ public final class TravelTest {
         CrateCushions y = new CrateCushions();
         y.lag(3);
         Check.same("a third of 20000 less, rounded down", y.climate(0), 13333);
+    }
+
+    private static void promise15ForLaterHours() {
+        CrateCushions x = new CrateCushions();
+        x.climate(0);
+        Check.same("what it was", x.lag(1), 4);
+        Check.same("the hour before stays", x.inside(0), 15000);
+        Check.same("the hour behind has the new lag", x.climate(3), 3000);
+        Check.same("the same lag again", x.lag(1), 1);
+    }
+
+    /** Rounded down, a third of 2 is nothing, but a third of 1 less is 1 less. */
+    private static void promise16SmallDifferences() {
+        CrateCushions x = new CrateCushions();
+        x.lag(1);
+        x.climate(0);
+        x.lag(3);
+        int[] rising = {333, 555, 703, 802, 868, 912, 941, 960, 973, 982, 988, 992, 994, 996, 997, 998, 998, 998};
+        for (int due : rising) {
+            Check.same("rising to 1000", x.climate(1), due);
+        }
+        CrateCushions y = new CrateCushions();
+        y.lag(1);
+        y.climate(2);
+        y.lag(3);
+        int[] falling = {1666, 1444, 1296, 1197, 1131, 1087, 1058, 1038, 1025, 1016, 1010, 1006, 1004, 1002, 1001,
+            1000, 1000};
+        for (int due : falling) {
+            Check.same("falling to 1000", y.climate(1), due);
+        }
     }
 
     private static void promise16Limits() {
@@ -98,6 +135,52 @@ public final class TravelTest {
                 () -> x.steady(Integer.MAX_VALUE, Integer.MIN_VALUE));
     }
 
+    private static void promise18Ends() {
+        CrateCushions x = new CrateCushions();
+        x.lag(1);
+        for (int d : new int[] {1, 1, 1, 0, 1, 1, 0, 1}) {
+            x.climate(d);
+        }
+        Check.same("from the first hour", x.steady(1000, 1000), 3);
+        Check.same("just below", x.steady(1000, Integer.MAX_VALUE), 3);
+        Check.same("just above", x.steady(1001, Integer.MAX_VALUE), 0);
+        Check.same("hours apart do not add up", x.steady(Integer.MIN_VALUE, 0), 1);
+        Check.same("below all", x.steady(Integer.MIN_VALUE, -1), 0);
+        for (int hour = 0; hour < 4; hour++) {
+            x.climate(1);
+        }
+        Check.same("up to the last hour", x.steady(1000, 1000), 5);
+        Check.same("what was inside ahead of the first hour is no hour", x.steady(20000, 20000), 0);
+    }
+
+    private static void promise19Halves() {
+        CrateCushions x = new CrateCushions();
+        int[][] halves = {{1, 0}, {2, 1}, {3, 1}, {10, 5}, {11, 5}, {9999, 4999}, {10000, 5000}};
+        for (int[] half : halves) {
+            x.limit(half[0], 7);
+            String name = "peak " + half[0] + ": ";
+            Check.no(name + "the half, long", x.shock(half[1], 10000));
+            Check.yes(name + "above the half, just long", x.shock(half[1] + 1, 8));
+            Check.no(name + "above the half, not long", x.shock(half[1] + 1, 7));
+            Check.no(name + "the peak, not long", x.shock(half[0], 7));
+            if (half[0] < 10000) {
+                Check.yes(name + "above the peak, short", x.shock(half[0] + 1, 0));
+            }
+        }
+    }
+
+    private static void promise19LaterLimits() {
+        CrateCushions x = new CrateCushions();
+        x.shock(500, 500);
+        x.limit(400, 400);
+        Check.same("what was not told stays so", x.count(5), 0);
+        Check.yes("from now on it is", x.shock(500, 500));
+        x.limit(10000, 10000);
+        Check.same("what was told stays so", x.count(5), 1);
+        Check.no("now it is not", x.shock(500, 500));
+        Check.same("all shocks", x.count(4), 3);
+    }
+
     private static void promise19And20Shocks() {
         CrateCushions x = new CrateCushions();
         Check.no("none is told at first", x.shock(10000, 10000));
@@ -140,6 +223,17 @@ public final class TravelTest {
         Check.yes("the length stayed", x.shock(51, 11));
     }
 
+    /** An object has 512 calls, and no limit of shocks but that. */
+    private static void promise20UpToTheLastCall() {
+        CrateCushions x = new CrateCushions();
+        x.limit(1, 1);
+        for (int n = 0; n < 509; n++) {
+            x.shock(n % 3, 1);
+        }
+        Check.same("count(4), the 511th call", x.count(4), 509);
+        Check.same("count(5), the 512th call", x.count(5), 169);
+    }
+
     private static void promise21Route() {
         CrateCushions x = new CrateCushions();
         Check.same("route(1, 3)", x.route(1, 3), 68 + 66 + 76);
@@ -149,9 +243,10 @@ public final class TravelTest {
         Check.same("the greatest drop", x.route(seedWithRest(90), 1), 100);
         Check.same("the least drop", x.route(seedWithRest(0), 1), 10);
         for (int legs = 1; legs <= 50; legs++) {
-            long sum = x.route(777, legs);
+            CrateCushions y = new CrateCushions();
+            long sum = y.route(777, legs);
             for (int leg = 0; leg < legs; leg++) {
-                sum -= x.drop(leg);
+                sum -= y.drop(leg);
             }
             Check.same("all drops of " + legs + " legs together", sum, 0);
         }
@@ -164,6 +259,19 @@ public final class TravelTest {
             }
         }
         return -1;
+    }
+
+    private static void promise21WrapsAround() {
+        CrateCushions x = new CrateCushions();
+        Check.same("65474 is not yet around", x.route(872, 1), 10 + 65474 % 91);
+        Check.same("65549 is around to 12", x.route(873, 1), 10 + 12);
+        Check.same("52 times around to 0, then 74", x.route(45438, 2), 10 + 10 + 74);
+        Check.same("65536 stays 65536", x.route(65536, 50), 50 * 26);
+        for (int leg = 0; leg < 50; leg++) {
+            Check.same("leg " + leg, x.drop(leg), 26);
+        }
+        Check.same("the seed is taken anew", x.route(65536, 1), 26);
+        Check.same("and not the last s", x.route(0, 1), 84);
     }
 
     private static void promise21Refusals() {
