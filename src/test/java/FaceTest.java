@@ -8,29 +8,30 @@ import java.util.TreeSet;
 
 /** The public face, promise 1, and the rules of the language that reflection can see. */
 public final class FaceTest {
+    /** The document's face; INDEX, STATE and ARGUMENT are the exceptions that Check names so. */
     private static final String[] FACE = {
-        "int object(int, int, int, int)",
-        "boolean weak(int, int, boolean)",
-        "int foam(int, int)",
-        "int point(int, int, int, int)",
-        "int value(int, int, int)",
-        "int thickness(int, int, int)",
-        "int pack(int, int)",
-        "int size(int)",
-        "int at(int, int)",
-        "int crate(int, int, int)",
-        "int match()",
-        "boolean free(int)",
-        "int split(int)",
-        "int lag(int)",
-        "int climate(int)",
-        "int inside(int)",
-        "int steady(int, int)",
-        "void limit(int, int)",
-        "boolean shock(int, int)",
-        "int route(int, int)",
-        "int drop(int)",
-        "int count(int)",
+        "int object(int, int, int, int) throws STATE ARGUMENT",
+        "boolean weak(int, int, boolean) throws INDEX",
+        "int foam(int, int) throws INDEX STATE ARGUMENT",
+        "int point(int, int, int, int) throws INDEX STATE ARGUMENT",
+        "int value(int, int, int) throws INDEX",
+        "int thickness(int, int, int) throws INDEX",
+        "int pack(int, int) throws INDEX ARGUMENT",
+        "int size(int) throws INDEX STATE",
+        "int at(int, int) throws INDEX STATE",
+        "int crate(int, int, int) throws STATE ARGUMENT",
+        "int match() throws STATE",
+        "boolean free(int) throws INDEX",
+        "int split(int) throws ARGUMENT",
+        "int lag(int) throws ARGUMENT",
+        "int climate(int) throws STATE ARGUMENT",
+        "int inside(int) throws INDEX",
+        "int steady(int, int) throws ARGUMENT",
+        "void limit(int, int) throws ARGUMENT",
+        "boolean shock(int, int) throws ARGUMENT",
+        "int route(int, int) throws ARGUMENT",
+        "int drop(int) throws INDEX",
+        "int count(int) throws INDEX",
     };
 
     public static void main(String[] args) {
@@ -61,8 +62,23 @@ public final class FaceTest {
 
     private static String signature(Method method) {
         String types = Arrays.toString(method.getParameterTypes());
-        return method.getReturnType() + " " + method.getName() + "("
-                + types.substring(1, types.length() - 1) + ")";
+        StringBuilder text = new StringBuilder();
+        text.append(method.getReturnType()).append(' ').append(method.getName()).append('(');
+        text.append(types, 1, types.length() - 1).append(") throws");
+        for (Class<?> thrown : method.getExceptionTypes()) {
+            text.append(' ').append(shortName(thrown));
+        }
+        return text.toString();
+    }
+
+    private static String shortName(Class<?> thrown) {
+        if (thrown == Check.INDEX) {
+            return "INDEX";
+        }
+        if (thrown == Check.STATE) {
+            return "STATE";
+        }
+        return thrown == Check.ARGUMENT ? "ARGUMENT" : thrown.getName();
     }
 
     private static void restIsPrivate() {
